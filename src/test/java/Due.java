@@ -1,0 +1,28 @@
+/** Counts the answers of one test that are not the ones that are due, and ends it by them. */
+final class Due {
+    private int asked = 0;
+    private int wrong = 0;
+
+    void is(String call, long got, long due) {
+        asked++;
+        if (got == due) return;
+        wrong++;
+        System.out.println(call + " answered " + got + ", due is " + due);
+    }
+
+    void holds(String what, boolean so) {
+        asked++;
+        if (so) return;
+        wrong++;
+        System.out.println("not so: " + what);
+    }
+
+    boolean isWrong() {
+        return wrong > 0;
+    }
+
+    void end() {
+        System.out.println(asked + " asked, " + wrong + " wrong");
+        if (wrong > 0 || asked == 0) System.exit(1);
+    }
+}
