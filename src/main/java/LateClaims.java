@@ -666,7 +666,7 @@ public final class LateClaims {
          * time, since CLOCKS can make a LEG arrive ahead of its own leaving.
          */
         int soonestBy(Port start, int time, Port goal, int connect) {
-            Arrays.fill(reached, false);
+            for (int i = 0; i < size; i++) reached[i] = false;
             int found = reach(0, start, time);
             int soonest = NONE;
             for (int next = 0; next < found && next < MOST; next++) {

@@ -6,6 +6,7 @@ public final class ClaimsTest {
         stops(due);
         claims(due);
         barred(due);
+        oneStop(due);
         stopped(due);
         worth(due);
         due.end();
@@ -112,6 +113,34 @@ public final class ClaimsTest {
             claim 0 = 0
             claimOf 0 2 = 0
             claimOf 0 3 = 70
+            """);
+    }
+
+    private static void oneStop(Due due) {
+        Script.of(due, "one STOP", """
+            leg 0 1 0 0 100 200 = 0
+            traveller 0 = 0
+            law 0 0 0 0 70 = 0
+            days 20 = 20
+            claim 0 = 0
+            bar 0 20 = 365
+            claimOf 0 2 = 0
+            stop 0 30 40 = 1
+            claimOf 0 2 = 0
+            bar 0 19 = 20
+            claimOf 0 2 = 1               # behind all of them
+            """);
+        Script.of(due, "DAYS ahead of and behind a STOP", """
+            leg 0 1 0 0 100 200 = 0
+            traveller 0 = 0
+            law 0 0 0 0 70 = 0
+            days 20 = 20
+            claim 0 = 0
+            stop 0 5 5 = 1
+            bar 0 19 = 365
+            claimOf 0 2 = 0
+            bar 0 18 = 19
+            claimOf 0 2 = 1
             """);
     }
 

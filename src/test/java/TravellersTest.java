@@ -5,6 +5,7 @@ public final class TravellersTest {
         travellers(due);
         tickets(due);
         missed(due);
+        timesOfNought(due);
         otherWays(due);
         oddWays(due);
         roundTrip(due);
@@ -103,6 +104,22 @@ public final class TravellersTest {
             """);
     }
 
+    private static void timesOfNought(Due due) {
+        Script.of(due, "both right times would be below 0", """
+            leg 0 1 0 0 100 200 = 0
+            leg 1 2 1 1 300 400 = 1
+            traveller 0 = 0
+            then 0 1 = 2
+            seen 1 0 50 = 1
+            log 0 100 20 = 1
+            log 1 10 400 = 1
+            set 2 0 = 45
+            missed 0 = -9        # both are 0
+            set 2 1 = 0
+            missed 0 = 1
+            """);
+    }
+
     private static void otherWays(Due due) {
         Script.of(due, "soonest", """
             leg 0 1 0 0 100 200 = 0
@@ -188,6 +205,22 @@ public final class TravellersTest {
             log 3 344 400 = 0
             soonest 0 = 500
             """);
+        Script.of(due, "round and round", """
+            set 2 0 = 45
+            leg 0 1 0 0 100 200 = 0
+            leg 1 0 1 1 100 200 = 1
+            leg 2 3 1 1 100 200 = 2
+            leg 0 2 1 1 100 150 = 3
+            traveller 3 = 0
+            then 0 2 = -3
+            log 0 100 100 = 1
+            log 1 100 100 = 1     # at one moment there and back, for ever
+            log 2 100 100 = 1
+            soonest 0 = -9
+            leg 1 2 1 1 100 150 = 4
+            log 4 100 777 = 1
+            soonest 0 = 777       # by the LEGS 0 and 4
+            """);
     }
 
     private static void roundTrip(Due due) {
@@ -257,7 +290,9 @@ public final class TravellersTest {
             set 2 45 = 71
             log 0 100 286 = 0
             missed 0 = 1
-            blame 0 = 2
+            log 1 330 999 = 0
+            blame 0 = 2           # though the MISSED one is far more LATE by itself
+            log 1 330 430 = 0
             log 0 100 285 = 0
             missed 0 = -9
             blame 0 = 5
