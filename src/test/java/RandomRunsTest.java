@@ -1,7 +1,5 @@
-import java.lang.reflect.InvocationTargetException;
 import java.lang.reflect.Method;
 import java.util.ArrayList;
-import java.util.Comparator;
 import java.util.HashMap;
 import java.util.List;
 import java.util.Map;
@@ -14,7 +12,7 @@ public final class RandomRunsTest {
 
     private final Random random;
     private final Due due;
-    private final List<Method> face = new ArrayList<>();
+    private final List<Method> face = Call.face();
     private final Map<String, Map<Integer, Integer>> answers = new HashMap<>();
     /** Of one run: how many PORTS it uses, how far apart times lie, how often a call is wrong, how fast DAYS go. */
     private int ports;
@@ -28,13 +26,9 @@ public final class RandomRunsTest {
     private RandomRunsTest(Random random, Due due) {
         this.random = random;
         this.due = due;
-        for (Method m : LateClaims.class.getDeclaredMethods()) {
-            if (java.lang.reflect.Modifier.isPublic(m.getModifiers())) face.add(m);
-        }
-        face.sort(Comparator.comparing(Method::getName));
     }
 
-    public static void main(String[] args) throws ReflectiveOperationException {
+    public static void main(String[] args) {
         Due due = new Due();
         RandomRunsTest test = new RandomRunsTest(new Random(20261117), due);
         due.is("methods of the face", test.face.size(), 35);
@@ -44,7 +38,7 @@ public final class RandomRunsTest {
         due.end();
     }
 
-    private void run(int number) throws ReflectiveOperationException {
+    private void run(int number) {
         ports = 2 + random.nextInt(4);
         span = new int[] {300, 1500, 6000, 20000}[random.nextInt(4)];
         wrongOf = new int[] {8, 40, 1000}[random.nextInt(3)];
@@ -57,30 +51,17 @@ public final class RandomRunsTest {
         for (int i = 0; i < CALLS; i++) {
             Method m = choose(i);
             int[] a = arguments(m.getName(), m.getParameterCount());
-            int got = ask(x, m, a);
-            int wanted = model.call(m.getName(), a);
+            Call call = Call.of(m, a);
+            int got = call.on(x);
+            int wanted = call.on(model);
             remember(m.getName(), a, wanted);
-            String call = m.getName() + java.util.Arrays.toString(a);
-            told.add(call + " " + wanted);
+            told.add(call + " = " + wanted);
             answers.computeIfAbsent(m.getName(), n -> new HashMap<>()).merge(wanted, 1, Integer::sum);
             due.is("run " + number + ", call " + i + ": " + call, got, wanted);
             if (got != wanted) {
                 told.forEach(System.out::println);
                 return;
             }
-        }
-    }
-
-    private static int ask(LateClaims x, Method m, int[] a) throws ReflectiveOperationException {
-        Object[] values = new Object[a.length];
-        for (int i = 0; i < a.length; i++) {
-            if (m.getParameterTypes()[i] == boolean.class) values[i] = a[i] == 1;
-            else values[i] = a[i];
-        }
-        try {
-            return (Integer) m.invoke(x, values);
-        } catch (InvocationTargetException e) {
-            throw new IllegalStateException(m.getName() + java.util.Arrays.toString(a), e.getCause());
         }
     }
 
