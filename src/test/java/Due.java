@@ -21,8 +21,9 @@ final class Due {
         return wrong > 0;
     }
 
+    /** Java ends with exit code 1 by what is thrown here; thrown, so that a test can be run inside another one. */
     void end() {
         System.out.println(asked + " asked, " + wrong + " wrong");
-        if (wrong > 0 || asked == 0) System.exit(1);
+        if (wrong > 0 || asked == 0) throw new AssertionError("not all answers are as due");
     }
 }

@@ -34,7 +34,6 @@ import javax.tools.ToolProvider;
 /** The rules of LANGUAGE.md that can be read off the program's text: its face, its forms, its sizes, its depth. */
 public final class LanguageTest extends TreePathScanner<Void, Void> {
     private static final Path SOURCE = Path.of("src/main/java/LateClaims.java");
-    private static final Path DOCUMENT = Path.of("../shared/DOC.md");
     /** What the program uses of the library; more of it may be added here as LANGUAGE.md allows. */
     private static final Set<String> LIBRARY = Set.of("java.lang.Math.max(int,int)", "java.lang.Math.min(int,int)",
         "java.lang.Math.abs(int)", "java.util.Arrays.fill(int[],int)", "Array.clone()");
@@ -79,7 +78,7 @@ public final class LanguageTest extends TreePathScanner<Void, Void> {
 
     private void wholeFile() throws IOException {
         Set<String> promised = new TreeSet<>();
-        for (String line : Files.readAllLines(DOCUMENT)) {
+        for (String line : Document.lines()) {
             if (line.startsWith("    public ") && line.endsWith(");")) promised.add(line.trim().replace(";", ""));
         }
         due.holds("the document tells a face", promised.size() == 36);
